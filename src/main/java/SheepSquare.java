@@ -403,9 +403,8 @@ public final class SheepSquare {
     /** The tape and the reading of it; behind the first FAULT nothing more is read. */
     private static final class Reader {
         static final int LONGEST = 100;
-        static final int END = 0, NUMBER = 1, NO_TOKEN = 2;
+        static final int END = -1, NUMBER = -2, NO_TOKEN = -3;
         static final int MISPLACED = 1, NOT_AS_TOLD = 2, NO_ROOM = 3;
-        static final String SORTS = "pdtnl";
 
         final int[] tape = new int[LONGEST];
         int bytes = 0;
@@ -413,7 +412,7 @@ public final class SheepSquare {
         int faultPlace = 0;
         private boolean faulty = false;
         private int at = 0;
-        /** The TOKEN that is looked at: its first byte, what it is (letters, signs: their byte), its value. */
+        /** The TOKEN that is looked at: its first byte, what it is (all but NUMBERS: the byte itself), its value. */
         private int start = 0;
         private int token = END;
         private int value = 0;
@@ -460,14 +459,14 @@ public final class SheepSquare {
         }
 
         private void readSleepers(Square into) {
-            for (int i = 0; i <= SLEEPER_ROOM && !faulty && sortTold() >= 0; i++) {
+            for (int i = 0; i <= SLEEPER_ROOM && !faulty && kindOf(token) != SLEEPER; i++) {
                 if (into.sleepers == SLEEPER_ROOM) blame(NO_ROOM);
                 else readSleeper(into, into.sleepers);
             }
         }
 
         private void readSleeper(Square into, int sleeper) {
-            into.kind[sleeper] = PLAIN + sortTold();
+            into.kind[sleeper] = kindOf(token);
             look();
             into.needs[sleeper] = takeNumber(1, 60);
             take(',');
@@ -476,8 +475,16 @@ public final class SheepSquare {
             into.sleepers++;
         }
 
-        private int sortTold() {
-            return SORTS.indexOf((char) token);
+        /** The KIND that a SORT's letter tells; SLEEPER, which no text tells, for all else. */
+        private static int kindOf(int letter) {
+            switch (letter) {
+                case 'p': return PLAIN;
+                case 'd': return DEEP;
+                case 't': return TEA;
+                case 'n': return NERVOUS;
+                case 'l': return LIGHT;
+                default: return SLEEPER;
+            }
         }
 
         private void take(int due) {
@@ -507,8 +514,7 @@ public final class SheepSquare {
             } else if (isFigure(tape[at])) {
                 lookAtNumber();
             } else {
-                int b = tape[at++];
-                token = b >= 'a' && b <= 'z' || b == ',' || b == ';' ? b : NO_TOKEN;
+                token = tape[at++];
             }
         }
 

@@ -50,6 +50,7 @@ final class ActsTest {
         due.is("steps(1), round and round", x.steps(1), 3);
         counted(x, 4, 2);
         due.is("STEP", x.count(3), 4);
+        due.is("who is off, asked of him", x.sleeper(1, 3), 1);
     }
 
     private static void kindsByCoats() {
@@ -234,6 +235,8 @@ final class ActsTest {
         x.steps(2);
         x.restore(0);
         due.is("the later image counts", x.count(3), 3);
+        due.is("acts are forgotten", x.count(6), 0);
+        due.is("none to undo", x.undo(), STATE);
     }
 
     private static void count() {

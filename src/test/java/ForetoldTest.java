@@ -197,6 +197,13 @@ final class ForetoldTest {
         y.steps(5);
         due.is("now", y.quiet(1), 0);
         due.is("both never stay", y.quiet(2), NONE);
+        SheepSquare z = Due.town("q0;f1,0;f9,3;f1,0;f1,0;f1,0;f1,0;l1,1;");
+        z.steps(1);
+        z.wind(5);
+        z.change(0);
+        due.is("off behind 5", z.off(5), 1);
+        due.is("woken behind 6", z.off(6), 0);
+        due.is("so not quiet", z.quiet(1), NONE);
     }
 
     private static void order() {
@@ -219,6 +226,12 @@ final class ForetoldTest {
         y.change(0);
         due.is("told none, by numbers", y.order(0, 0), 0);
         due.is("told none, by numbers, last", y.order(0, 1), 1);
+        SheepSquare six = Due.town("q5;f9,3;f1,0;f1,0;f9,0;f9,0;f9,0;l3,1;l4,1;");
+        int[] loudFirst = {3, 4, 5, 0, 1, 2};
+        due.is("of six, behind 3", six.order(1, -1), 3);
+        for (int k = 0; k < 6; k++) due.is("of six, order(1, " + k + ")", six.order(1, k), loudFirst[k]);
+        due.is("of six, by none", six.order(2, -1), NONE);
+        due.is("of six, by none, too", six.order(3, 5), NONE);
     }
 
     private static void fewest() {
@@ -242,6 +255,13 @@ final class ForetoldTest {
         due.is("both in 2, which", w.fewest(3, 2, 1), 4);
         w.cough(0);
         due.is("white one alone", w.fewest(2, 2, 1), 1);
+        SheepSquare six = Due.town("q8;f1,1;f1,1;f1,1;f1,1;f1,1;f9,3;l5,0;p1,1;l4,0;");
+        due.is("all six", six.fewest(3, 11, 0), 6);
+        due.is("all six, which", six.fewest(3, 11, 1), 63);
+        due.is("all six, too soon", six.fewest(3, 10, 0), NONE);
+        due.is("five", six.fewest(6, 9, 0), 5);
+        due.is("five, of several the least", six.fewest(6, 9, 1), 47);
+        due.is("five, too soon", six.fewest(6, 8, 1), NONE);
     }
 
     private static void told(SheepSquare x, int... items) {

@@ -136,10 +136,12 @@ final class TextTest {
         x.steps(3);
         x.change(0);
         x.wind(7);
+        x.off(50);
         due.is("in its place", Due.read(x, "q1;f4,3;f2,2;f1,1;d7,1;"), 1);
         due.is("step", x.count(3), 0);
         due.is("wind", x.count(4), 1);
         due.is("who are off", x.count(5), 0);
+        due.is("who are off, bits", x.off(0), 0);
         due.is("acts", x.count(6), 0);
         due.is("undo", x.undo(), SheepSquare.STATE);
         due.is("counted", x.sleeper(0, 2), 0);
