@@ -9,6 +9,7 @@ final class ModelTest {
         "sleeper/2", "sheep/2", "off/1", "counted/2", "when/1", "all/1", "never/0", "quiet/1", "order/2", "fewest/3",
         "missing/3", "windy/3", "sorts/4", "stay/4", "image/1", "restore/1", "kind/1", "as/2", "ask/2", "trace/1",
         "count/1", "status/0", "feed/1", "square/0", "steps/1", "steps/1", "wind/1", "cough/1", "change/1", "undo/0"};
+    /** Numbers at and beyond the document's edges. */
     private static final int[] WILD = {
         -1, -2, 8, 9, 10, 11, 15, 16, 17, 24, 25, 31, 32, 39, 40, 41, 63, 64, 99, 100, 128, 255, 256, 32768,
         Integer.MAX_VALUE, Integer.MIN_VALUE, Integer.MAX_VALUE - 1, Integer.MIN_VALUE + 1};
@@ -31,10 +32,10 @@ final class ModelTest {
     }
 
     private void go() {
-        if (random.nextInt(8) != 0) feedText();
+        if (random.nextInt(8) != 0) feedText(false);
         while (calls < CALLS) {
             int what = random.nextInt(100);
-            if (what == 0) feedText();
+            if (what == 0) feedText(random.nextBoolean());
             else if (what < 7) tellTrue();
             else anyCall();
         }
@@ -93,7 +94,7 @@ final class ModelTest {
         for (int s = 0; s < 5; s++) both("sorts", s, 0, 0, n);
     }
 
-    private void feedText() {
+    private void feedText(boolean spoiled) {
         StringBuilder text = new StringBuilder("q").append(random.nextInt(7)).append(';');
         int sheep = 1 + random.nextInt(random.nextInt(12) == 0 ? 7 : 6);
         for (int i = 0; i < sheep; i++) {
@@ -104,7 +105,7 @@ final class ModelTest {
             int needs = 1 + random.nextInt(random.nextInt(6) == 0 ? 60 : 8);
             text.append("pdtnl".charAt(random.nextInt(5))).append(needs).append(',').append(random.nextInt(2)).append(';');
         }
-        if (random.nextInt(3) == 0) spoil(text);
+        if (spoiled) spoil(text);
         both("square");
         for (int i = 0; i < text.length(); i++) both("feed", text.charAt(i));
         both("square");

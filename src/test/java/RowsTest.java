@@ -93,7 +93,7 @@ final class RowsTest {
         due.is("all that fits", x.copy(0, 1, 1, 0, 3), 3);
     }
 
-    /** Items are told by windy(): by no sleeper nobody is OFF, so items must be 0. */
+    /** No call tells an ITEM, so windy() does: here 1 to 5 are OFF behind 1 to 5 STEPS, whatever the wind. */
     private static void copyOverItself() {
         SheepSquare x = Due.town("q0;f1,0;p1,0;p2,0;p3,0;p4,0;p5,0;");
         x.row(0, 2, 8);
@@ -112,6 +112,8 @@ final class RowsTest {
         due.is("came there", x.windy(1, 1, 2), 1023);
         x.row(1, 2, 3);
         due.is("0 at first again", x.windy(1, 1, 2), 0);
+        x.row(0, 2, 8);
+        due.is("the first item, too", x.windy(0, 0, 1), 0);
     }
 
     private static void drop() {

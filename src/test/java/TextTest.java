@@ -114,6 +114,9 @@ final class TextTest {
         fault("q1;f0,0;p1,0;p1,0;p1,0;p1,0;p1,0;f", 1, 33);
         fault("q1;f0,0;p1,0;p1,0;p1,0;p1,0;p1,0;pp", 3, 33);
         fault("q\u00e91;", 1, 1);
+        for (int b = 0; b < 256; b++) {
+            if ("pdtnlf".indexOf(b) < 0) fault("q1;f0,0;" + (char) b, 1, 8);
+        }
     }
 
     private static void faultsLeaveAll() {
