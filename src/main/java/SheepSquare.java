@@ -263,8 +263,7 @@ public final class SheepSquare {
 
     public int ask(int sleeper, int what) {
         if (noSleeper(sleeper) || what < 0 || what >= ASKS) return BAD;
-        asked.begin(now, sleeper);
-        return asked.answer(what, 0);
+        return asked.begin(now, sleeper, what);
     }
 
     public int trace(int i) {
@@ -489,7 +488,7 @@ public final class SheepSquare {
 
         private void take(int due) {
             if (token != due) blame(MISPLACED);
-            else look();
+            if (!faulty) look();
         }
 
         private int takeNumber(int least, int most) {
@@ -892,15 +891,16 @@ public final class SheepSquare {
         private int needs = 0;
         private int counted = 0;
 
-        void begin(Square now, int sleeper) {
+        int begin(Square now, int sleeper, int what) {
             left = 0;
             number = sleeper;
             kind = now.kind[sleeper];
             needs = now.needs[sleeper];
             counted = now.counted[sleeper];
+            return answer(what, 0);
         }
 
-        int answer(int what, int depth) {
+        private int answer(int what, int depth) {
             return give(bodyFor(what), depth + 1);
         }
 
