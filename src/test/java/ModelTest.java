@@ -127,47 +127,7 @@ final class ModelTest {
     private int both(String name, int... a) {
         calls++;
         int want = model.call(name, a);
-        due.is("run " + run + ", call " + calls + ", " + name + Arrays.toString(a), really(name, a), want);
+        due.is("run " + run + ", call " + calls + ", " + name + Arrays.toString(a), Town.call(real, name, a), want);
         return want;
-    }
-
-    private int really(String name, int[] a) {
-        switch (name) {
-            case "row": return real.row(a[0], a[1], a[2]);
-            case "set": return real.set(a[0], a[1], a[2]);
-            case "copy": return real.copy(a[0], a[1], a[2], a[3], a[4]);
-            case "drop": return real.drop(a[0]);
-            case "feed": return real.feed(a[0]);
-            case "square": return real.square();
-            case "fault": return real.fault();
-            case "steps": return real.steps(a[0]);
-            case "change": return real.change(a[0]);
-            case "wind": return real.wind(a[0]);
-            case "cough": return real.cough(a[0]);
-            case "undo": return real.undo();
-            case "sleeper": return real.sleeper(a[0], a[1]);
-            case "sheep": return real.sheep(a[0], a[1]);
-            case "off": return real.off(a[0]);
-            case "counted": return real.counted(a[0], a[1]);
-            case "when": return real.when(a[0]);
-            case "all": return real.all(a[0]);
-            case "never": return real.never();
-            case "quiet": return real.quiet(a[0]);
-            case "order": return real.order(a[0], a[1]);
-            case "fewest": return real.fewest(a[0], a[1], a[2]);
-            case "missing": return real.missing(a[0], a[1], a[2]);
-            case "windy": return real.windy(a[0], a[1], a[2]);
-            case "sorts": return real.sorts(a[0], a[1], a[2], a[3]);
-            case "stay": return real.stay(a[0], a[1], a[2], a[3]);
-            case "image": return real.image(a[0]);
-            case "restore": return real.restore(a[0]);
-            case "kind": return real.kind(a[0]);
-            case "as": return real.as(a[0], a[1]);
-            case "ask": return real.ask(a[0], a[1]);
-            case "trace": return real.trace(a[0]);
-            case "count": return real.count(a[0]);
-            case "status": return real.status();
-            default: throw new IllegalArgumentException(name);
-        }
     }
 }
