@@ -57,10 +57,12 @@ final class AskBoundsTest {
     private static void promise32LeastAndMost() {
         Town x = town("32, NEEDS 60, COUNTED 99").reads(FIVE);
         for (int i = 0; i < 5; i++) x.run("steps(24)");
-        x.is(60 + 99, "ask(0, 0)").is(99, "ask(0, 1)").is(-(60 + 200), "ask(1, 0)").is(200, "ask(1, 1)").is(60 + 101 - 1000, "ask(2, 0)").is(101 - 1000, "ask(2, 1)");
+        x.is(60 + 99, "ask(0, 0)").is(99, "ask(0, 1)").is(-(60 + 200), "ask(1, 0)").is(200, "ask(1, 1)").is(60 + 101 - 1000, "ask(2, 0)")
+            .is(101 - 1000, "ask(2, 1)");
         x.is(-40, "ask(3, 0)").is(3 + 40, "ask(3, 1)").is(-80, "ask(4, 0)").is(4 + 80, "ask(4, 1)");
         x = town("32, NEEDS 1, COUNTED 0").reads(FIVE_LEAST);
-        x.is(1, "ask(0, 0)").is(0, "ask(0, 1)").is(-3, "ask(1, 0)").is(2, "ask(1, 1)").is(1 + 2 - 1000, "ask(2, 0)").is(2 - 1000, "ask(2, 1)");
+        x.is(1, "ask(0, 0)").is(0, "ask(0, 1)").is(-3, "ask(1, 0)").is(2, "ask(1, 1)").is(1 + 2 - 1000, "ask(2, 0)")
+            .is(2 - 1000, "ask(2, 1)");
         x.is(-99, "ask(3, 0)").is(3 + 99, "ask(3, 1)").is(-198, "ask(4, 0)").is(4 + 198, "ask(4, 1)");
         x.run("steps(1)").is(2, "ask(0, 0)").is(1, "ask(0, 1)").run("cough(0)").is(1, "ask(0, 0)").is(0, "ask(0, 1)");
         town("32, a NERVOUS one as sleeper 0").reads("q0;f1,1;n7,0;").is(-93, "ask(0, 0)").is(93, "ask(0, 1)");
@@ -68,16 +70,20 @@ final class AskBoundsTest {
 
     private static void promise32EmptyAhead() {
         Town x = town("32, THE TRACE is empty ahead of it").reads(FIVE).run("ask(1, 0)").are("trace(", 12, 11, 10, 24, 21, 20, NONE);
-        x.run("ask(3, 0)").are("trace(", 13, 10, NONE, NONE, NONE, NONE, NONE).run("ask(0, 1)").are("trace(", 21, 20, NONE, NONE, NONE, NONE);
+        x.run("ask(3, 0)").are("trace(", 13, 10, NONE, NONE, NONE, NONE, NONE).run("ask(0, 1)")
+            .are("trace(", 21, 20, NONE, NONE, NONE, NONE);
         x.run("ask(4, 1)").are("trace(", 23, 20, 14, 13, 10, NONE).run("ask(2, 0)").are("trace(", 11, 10, 22, 21, 20, NONE);
-        x.run("ask(2, 1)").are("trace(", 22, 21, 20, NONE).run("ask(1, 1)").are("trace(", 24, 21, 20, NONE).run("ask(0, 0)").are("trace(", 11, 10, 21, 20, NONE);
+        x.run("ask(2, 1)").are("trace(", 22, 21, 20, NONE).run("ask(1, 1)").are("trace(", 24, 21, 20, NONE).run("ask(0, 0)")
+            .are("trace(", 11, 10, 21, 20, NONE);
         x.run("ask(3, 1)").are("trace(", 23, 20, 13, 10, NONE).run("ask(4, 0)").are("trace(", 14, 13, 10, NONE);
-        x.run("steps(3)", "as(0, 5)", "kind(0)", "off(9)", "undo()").are("trace(", 14, 13, 10, NONE).reads("q0;f1,0;").are("trace(", 14, 13, 10, NONE);
+        x.run("steps(3)", "as(0, 5)", "kind(0)", "off(9)", "undo()").are("trace(", 14, 13, 10, NONE).reads("q0;f1,0;")
+            .are("trace(", 14, 13, 10, NONE);
     }
 
     private static void promise33() {
         Town x = town("33, NONE: no ask yet").is(NONE, "trace(MIN)", "trace(-1)", "trace(0)", "trace(15)", "trace(16)", "trace(MAX)");
         x.reads(FIVE).is(NONE, "trace(0)", "trace(1)").is(BAD, "ask(5, 0)").is(NONE, "trace(0)").run("ask(1, 0)");
-        x.is(NONE, "trace(MIN)", "trace(-1)", "trace(6)", "trace(7)", "trace(15)", "trace(16)", "trace(17)", "trace(MAX)").is(12, "trace(0)").is(20, "trace(5)");
+        x.is(NONE, "trace(MIN)", "trace(-1)", "trace(6)", "trace(7)", "trace(15)", "trace(16)", "trace(17)", "trace(MAX)")
+            .is(12, "trace(0)").is(20, "trace(5)");
     }
 }

@@ -39,7 +39,8 @@ final class RefusedTest {
             for (int i = 0; i < 416; i++) x.run("steps(24)");
             return x.run("steps(10)", "image(1)", "undo()", "ask(0, 0)", "row(1, 1, 1)", "row(0, 0, -1)", "square()", "feed(113)");
         }
-        x.run("row(0, 0, 3)", "set(0, 0, 1)", "set(0, 1, 2)", "set(0, 2, 3)", "row(1, 1, 3)", "set(1, 1, 1)", "row(2, 2, 3)", "set(2, 2, 5)", "row(3, 2, 0)");
+        x.run("row(0, 0, 3)", "set(0, 0, 1)", "set(0, 1, 2)", "set(0, 2, 3)", "row(1, 1, 3)", "set(1, 1, 1)", "row(2, 2, 3)",
+            "set(2, 2, 5)", "row(3, 2, 0)");
         if (how == Start.FULL_TAPE) return x.feed("q1;f5,0;p1,0;" + "p".repeat(87)).run("set(0, 3, 0)");
         x.feed("q10;").run("square()");
         if (how != Start.EMPTY) busy(x);
@@ -98,7 +99,8 @@ final class RefusedTest {
 
     /** Few calls are left to a town that has gone so far. */
     private static List<String> lastStep(Town x, List<String> asked) {
-        String[] calls = {"trace(0)", "trace(1)", "kind(0)", "sleeper(0, 0)", "sheep(0, 0)", "set(1, 0, 70000)", "square()", "undo()", "count(3)", "count(6)", "restore(0)", "restore(1)", "count(3)", "count(4)"};
+        String[] calls = {"trace(0)", "trace(1)", "kind(0)", "sleeper(0, 0)", "sheep(0, 0)", "set(1, 0, 70000)", "square()", "undo()",
+            "count(3)", "count(6)", "restore(0)", "restore(1)", "count(3)", "count(4)"};
         for (String call : calls) ask(x, asked, call);
         return asked;
     }
@@ -145,32 +147,46 @@ final class RefusedTest {
     // ---- the calls
 
     private static void refusedWithoutASquare() {
-        refused(Start.EMPTY, STATE, "steps(1)", "steps(0)", "steps(25)", "wind(0)", "wind(10)", "undo()", "off(0)", "off(100)", "all(0)", "all(32)", "never()");
-        refused(Start.EMPTY, STATE, "quiet(0)", "quiet(6)", "order(0, -1)", "order(0, 6)", "fewest(0, 0, 0)", "fewest(0, 0, 2)", "missing(0, 0, 1)", "missing(8, 0, 1)");
-        refused(Start.EMPTY, STATE, "windy(0, 0, 1)", "windy(0, 0, 17)", "windy(5, 0, 1)", "windy(0, 3, 1)", "image(0)", "image(1)", "restore(0)", "restore(1)");
-        refused(Start.EMPTY, BAD, "change(0)", "cough(0)", "sleeper(0, 0)", "sheep(0, 0)", "counted(0, 0)", "when(0)", "sorts(0, 0, 0, 1)", "sorts(0, 5, 0, 1)", "sorts(0, 0, 3, 1)");
-        refused(Start.EMPTY, BAD, "stay(0, 0, 0, 0)", "image(2)", "image(-1)", "restore(2)", "restore(-1)", "kind(0)", "as(0, 0)", "ask(0, 0)", "count(8)", "feed(256)");
+        refused(Start.EMPTY, STATE, "steps(1)", "steps(0)", "steps(25)", "wind(0)", "wind(10)", "undo()", "off(0)", "off(100)", "all(0)",
+            "all(32)", "never()");
+        refused(Start.EMPTY, STATE, "quiet(0)", "quiet(6)", "order(0, -1)", "order(0, 6)", "fewest(0, 0, 0)", "fewest(0, 0, 2)",
+            "missing(0, 0, 1)", "missing(8, 0, 1)");
+        refused(Start.EMPTY, STATE, "windy(0, 0, 1)", "windy(0, 0, 17)", "windy(5, 0, 1)", "windy(0, 3, 1)", "image(0)", "image(1)",
+            "restore(0)", "restore(1)");
+        refused(Start.EMPTY, BAD, "change(0)", "cough(0)", "sleeper(0, 0)", "sheep(0, 0)", "counted(0, 0)", "when(0)",
+            "sorts(0, 0, 0, 1)", "sorts(0, 5, 0, 1)", "sorts(0, 0, 3, 1)");
+        refused(Start.EMPTY, BAD, "stay(0, 0, 0, 0)", "image(2)", "image(-1)", "restore(2)", "restore(-1)", "kind(0)", "as(0, 0)",
+            "ask(0, 0)", "count(8)", "feed(256)");
         refused(Start.EMPTY, NONE, "trace(0)");
     }
 
     private static void refusedRows() {
-        refused(Start.BUSY, BAD, "row(-1, 0, 1)", "row(8, 0, 1)", "row(MIN, 0, 1)", "row(MAX, 0, 1)", "row(0, -1, 1)", "row(0, 3, 1)", "row(0, 0, 41)", "row(4, 0, 41)", "row(0, 2, MAX)", "row(8, 0, -1)", "row(0, 3, -1)");
-        refused(Start.BUSY, BAD, "set(-1, 0, 4)", "set(8, 0, 4)", "set(8, -1, 4)", "set(MAX, 0, 4)", "drop(-1)", "drop(8)", "drop(MIN)", "drop(MAX)");
-        refused(Start.BUSY, BAD, "copy(-1, 0, 0, 0, 1)", "copy(8, 0, 0, 0, 1)", "copy(0, 0, -1, 0, 1)", "copy(0, 0, 8, 0, 1)", "copy(4, 0, 8, 0, 1)");
+        refused(Start.BUSY, BAD, "row(-1, 0, 1)", "row(8, 0, 1)", "row(MIN, 0, 1)", "row(MAX, 0, 1)", "row(0, -1, 1)", "row(0, 3, 1)",
+            "row(0, 0, 41)", "row(4, 0, 41)", "row(0, 2, MAX)", "row(8, 0, -1)", "row(0, 3, -1)");
+        refused(Start.BUSY, BAD, "set(-1, 0, 4)", "set(8, 0, 4)", "set(8, -1, 4)", "set(MAX, 0, 4)", "drop(-1)", "drop(8)", "drop(MIN)",
+            "drop(MAX)");
+        refused(Start.BUSY, BAD, "copy(-1, 0, 0, 0, 1)", "copy(8, 0, 0, 0, 1)", "copy(0, 0, -1, 0, 1)", "copy(0, 0, 8, 0, 1)",
+            "copy(4, 0, 8, 0, 1)");
     }
 
     private static void foundRows() {
         found(Start.BUSY, SIZE, "row(0, 0, -1)", "row(1, 2, -1)", "row(4, 0, -1)", "row(0, 0, MIN)");
-        found(Start.BUSY, NULL, "set(4, 0, 4)", "set(7, -1, 4)", "drop(4)", "drop(7)", "copy(4, 0, 0, 0, 1)", "copy(0, 0, 4, 0, 1)", "copy(0, 0, 7, 0, 9)", "copy(4, 0, 5, 0, 0)");
-        found(Start.BUSY, STORE, "copy(0, 0, 1, 0, 1)", "copy(1, 1, 2, 0, 1)", "copy(2, 2, 0, 0, 1)", "copy(0, 0, 2, 0, 9)", "copy(0, 0, 3, 0, 0)");
+        found(Start.BUSY, NULL, "set(4, 0, 4)", "set(7, -1, 4)", "drop(4)", "drop(7)", "copy(4, 0, 0, 0, 1)", "copy(0, 0, 4, 0, 1)",
+            "copy(0, 0, 7, 0, 9)", "copy(4, 0, 5, 0, 0)");
+        found(Start.BUSY, STORE, "copy(0, 0, 1, 0, 1)", "copy(1, 1, 2, 0, 1)", "copy(2, 2, 0, 0, 1)", "copy(0, 0, 2, 0, 9)",
+            "copy(0, 0, 3, 0, 0)");
         found(Start.BUSY, PLACE, "set(0, -1, 4)", "set(0, 3, 4)", "set(1, MIN, 4)", "set(2, MAX, 4)", "set(3, 0, 4)");
-        found(Start.BUSY, PLACE, "copy(0, 0, 0, 1, 3)", "copy(0, 1, 0, 0, 3)", "copy(0, -1, 0, 0, 2)", "copy(0, 0, 0, -1, 2)", "copy(0, 2, 0, 0, -1)", "copy(2, 2, 3, 0, 1)", "copy(3, 0, 2, 0, 1)", "copy(0, 1, 0, 0, MAX)", "copy(0, 0, 0, MAX, 2)");
+        found(Start.BUSY, PLACE, "copy(0, 0, 0, 1, 3)", "copy(0, 1, 0, 0, 3)", "copy(0, -1, 0, 0, 2)", "copy(0, 0, 0, -1, 2)",
+            "copy(0, 2, 0, 0, -1)", "copy(2, 2, 3, 0, 1)", "copy(3, 0, 2, 0, 1)", "copy(0, 1, 0, 0, MAX)", "copy(0, 0, 0, MAX, 2)");
     }
 
     private static void refusedActs() {
-        refused(Start.BUSY, BAD, "feed(-1)", "feed(256)", "feed(MIN)", "feed(MAX)", "steps(0)", "steps(25)", "steps(-1)", "steps(MIN)", "steps(MAX)");
-        refused(Start.BUSY, BAD, "change(-1)", "change(6)", "change(MIN)", "change(MAX)", "wind(-1)", "wind(10)", "wind(MAX)", "cough(-1)", "cough(5)", "cough(MAX)");
-        refused(Start.BUSY, BAD, "sleeper(-1, 0)", "sleeper(5, 0)", "sleeper(0, -1)", "sleeper(0, 5)", "sheep(-1, 0)", "sheep(6, 0)", "sheep(0, -1)", "sheep(0, 3)", "count(-1)", "count(8)");
+        refused(Start.BUSY, BAD, "feed(-1)", "feed(256)", "feed(MIN)", "feed(MAX)", "steps(0)", "steps(25)", "steps(-1)", "steps(MIN)",
+            "steps(MAX)");
+        refused(Start.BUSY, BAD, "change(-1)", "change(6)", "change(MIN)", "change(MAX)", "wind(-1)", "wind(10)", "wind(MAX)",
+            "cough(-1)", "cough(5)", "cough(MAX)");
+        refused(Start.BUSY, BAD, "sleeper(-1, 0)", "sleeper(5, 0)", "sleeper(0, -1)", "sleeper(0, 5)", "sheep(-1, 0)", "sheep(6, 0)",
+            "sheep(0, -1)", "sheep(0, 3)", "count(-1)", "count(8)");
         refused(Start.BUSY, BAD, "image(-1)", "image(2)", "image(MAX)", "restore(-1)", "restore(2)", "restore(MIN)");
         refused(Start.BUSY, STATE, "change(5)");
         refused(Start.NO_ACTS, STATE, "undo()", "change(5)");
@@ -178,20 +194,28 @@ final class RefusedTest {
     }
 
     private static void refusedForetold() {
-        refused(Start.BUSY, BAD, "off(-1)", "off(100)", "counted(-1, 0)", "counted(5, 0)", "counted(0, -1)", "counted(0, 100)", "when(-1)", "when(5)", "all(-1)", "all(32)", "quiet(-1)", "quiet(6)");
-        refused(Start.BUSY, BAD, "order(-1, 0)", "order(32, 0)", "order(1, -2)", "order(1, 6)", "fewest(-1, 9, 0)", "fewest(32, 9, 0)", "fewest(1, -1, 0)", "fewest(1, 100, 0)", "fewest(1, 9, -1)", "fewest(1, 9, 2)");
-        refused(Start.BUSY, BAD, "missing(-1, 0, 1)", "missing(8, 0, 1)", "missing(0, 0, 0)", "missing(0, 0, 17)", "windy(-1, 0, 1)", "windy(8, 0, 1)", "windy(0, 0, 0)", "windy(0, 0, 17)");
-        refused(Start.BUSY, BAD, "sorts(-1, 0, 0, 1)", "sorts(5, 0, 0, 1)", "sorts(0, -1, 0, 1)", "sorts(0, 8, 0, 1)", "sorts(0, 0, 0, 0)", "sorts(0, 0, 0, 17)");
-        refused(Start.BUSY, BAD, "stay(-1, 9, 5, 0)", "stay(5, 9, 5, 0)", "stay(0, -1, 5, 0)", "stay(0, 100, 5, 0)", "stay(0, 9, -1, 0)", "stay(0, 9, 11, 0)", "stay(0, 9, 5, -1)", "stay(0, 9, 5, 2)");
+        refused(Start.BUSY, BAD, "off(-1)", "off(100)", "counted(-1, 0)", "counted(5, 0)", "counted(0, -1)", "counted(0, 100)",
+            "when(-1)", "when(5)", "all(-1)", "all(32)", "quiet(-1)", "quiet(6)");
+        refused(Start.BUSY, BAD, "order(-1, 0)", "order(32, 0)", "order(1, -2)", "order(1, 6)", "fewest(-1, 9, 0)", "fewest(32, 9, 0)",
+            "fewest(1, -1, 0)", "fewest(1, 100, 0)", "fewest(1, 9, -1)", "fewest(1, 9, 2)");
+        refused(Start.BUSY, BAD, "missing(-1, 0, 1)", "missing(8, 0, 1)", "missing(0, 0, 0)", "missing(0, 0, 17)", "windy(-1, 0, 1)",
+            "windy(8, 0, 1)", "windy(0, 0, 0)", "windy(0, 0, 17)");
+        refused(Start.BUSY, BAD, "sorts(-1, 0, 0, 1)", "sorts(5, 0, 0, 1)", "sorts(0, -1, 0, 1)", "sorts(0, 8, 0, 1)",
+            "sorts(0, 0, 0, 0)", "sorts(0, 0, 0, 17)");
+        refused(Start.BUSY, BAD, "stay(-1, 9, 5, 0)", "stay(5, 9, 5, 0)", "stay(0, -1, 5, 0)", "stay(0, 100, 5, 0)", "stay(0, 9, -1, 0)",
+            "stay(0, 9, 11, 0)", "stay(0, 9, 5, -1)", "stay(0, 9, 5, 2)");
     }
 
     private static void foundForetold() {
-        found(Start.BUSY, NULL, "missing(4, 0, 1)", "windy(4, 0, 1)", "sorts(0, 4, 0, 1)", "missing(7, -1, 16)", "windy(7, 99, 1)", "sorts(4, 7, -1, 1)");
-        found(Start.BUSY, PLACE, "missing(0, 3, 1)", "windy(0, 3, 1)", "sorts(0, 0, 3, 1)", "missing(0, -1, 1)", "windy(0, -1, 1)", "sorts(0, 0, -1, 1)", "missing(0, 1, 3)", "windy(3, 0, 1)", "sorts(0, 0, MAX, 2)");
+        found(Start.BUSY, NULL, "missing(4, 0, 1)", "windy(4, 0, 1)", "sorts(0, 4, 0, 1)", "missing(7, -1, 16)", "windy(7, 99, 1)",
+            "sorts(4, 7, -1, 1)");
+        found(Start.BUSY, PLACE, "missing(0, 3, 1)", "windy(0, 3, 1)", "sorts(0, 0, 3, 1)", "missing(0, -1, 1)", "windy(0, -1, 1)",
+            "sorts(0, 0, -1, 1)", "missing(0, 1, 3)", "windy(3, 0, 1)", "sorts(0, 0, MAX, 2)");
     }
 
     private static void refusedAsks() {
-        refused(Start.BUSY, BAD, "kind(-1)", "kind(5)", "as(-1, 0)", "as(5, 0)", "as(0, -1)", "as(0, 6)", "ask(-1, 0)", "ask(5, 0)", "ask(0, -1)", "ask(0, 2)");
+        refused(Start.BUSY, BAD, "kind(-1)", "kind(5)", "as(-1, 0)", "as(5, 0)", "as(0, -1)", "as(0, 6)", "ask(-1, 0)", "ask(5, 0)",
+            "ask(0, -1)", "ask(0, 2)");
         refused(Start.BUSY, NONE, "trace(-1)", "trace(6)", "trace(16)", "trace(MAX)", "trace(MIN)");
         found(Start.BUSY, KIND, "as(0, 2)", "as(0, 4)", "as(1, 3)", "as(2, 2)", "as(3, 1)", "as(3, 5)", "as(4, 1)");
     }
@@ -204,23 +228,29 @@ final class RefusedTest {
     }
 
     private static void toldOnly() {
-        same(Start.BUSY, ANY, SAME_STATUS, "fault()", "sleeper(0, 0)", "sleeper(4, 4)", "sheep(0, 0)", "sheep(5, 2)", "kind(0)", "trace(0)", "count(0)", "count(7)", "status()");
+        same(Start.BUSY, ANY, SAME_STATUS, "fault()", "sleeper(0, 0)", "sleeper(4, 4)", "sheep(0, 0)", "sheep(5, 2)", "kind(0)",
+            "trace(0)", "count(0)", "count(7)", "status()");
         same(Start.BUSY, ANY, 0, "as(0, 0)", "as(1, 1)", "as(4, 4)", "copy(0, 0, 0, 0, 3)", "copy(3, 0, 2, 3, 0)", "set(0, 0, 257)");
     }
 
     private static void foretoldOnly() {
-        same(Start.BUSY, ANY, SAME_STATUS, "off(0)", "off(99)", "counted(0, 99)", "counted(4, 9)", "when(0)", "when(3)", "all(0)", "all(31)", "never()", "quiet(0)", "quiet(5)");
-        same(Start.BUSY, ANY, SAME_STATUS, "order(0, -1)", "order(31, -1)", "order(16, 5)", "fewest(0, 0, 0)", "fewest(31, 99, 1)", "fewest(16, 9, 0)", "stay(0, 99, 5, 0)", "stay(4, 9, 3, 1)");
-        same(Start.BUSY, ANY, 0, "missing(0, 0, 1)", "missing(0, 0, 3)", "windy(0, 0, 1)", "windy(0, 0, 3)", "sorts(0, 0, 0, 1)", "sorts(4, 0, 0, 3)");
+        same(Start.BUSY, ANY, SAME_STATUS, "off(0)", "off(99)", "counted(0, 99)", "counted(4, 9)", "when(0)", "when(3)", "all(0)",
+            "all(31)", "never()", "quiet(0)", "quiet(5)");
+        same(Start.BUSY, ANY, SAME_STATUS, "order(0, -1)", "order(31, -1)", "order(16, 5)", "fewest(0, 0, 0)", "fewest(31, 99, 1)",
+            "fewest(16, 9, 0)", "stay(0, 99, 5, 0)", "stay(4, 9, 3, 1)");
+        same(Start.BUSY, ANY, 0, "missing(0, 0, 1)", "missing(0, 0, 3)", "windy(0, 0, 1)", "windy(0, 0, 3)", "sorts(0, 0, 0, 1)",
+            "sorts(4, 0, 0, 3)");
     }
 
     /** A FAULT empties the tape and is told by fault(): with the same bytes again, and the same number, nothing differs. */
     private static void faultyText() {
         for (Start how : new Start[] {Start.EMPTY, Start.BUSY, Start.NO_ACTS}) {
             List<String> wanted = everything(start(how, "the twin, " + how), how);
-            Town x = start(how, "a faulty text, " + how).is(-1000104, "square()").is(2, "fault()", "status()").is(0, "count(7)").feed("q1;f55");
+            Town x = start(how, "a faulty text, " + how).is(-1000104, "square()").is(2, "fault()", "status()").is(0, "count(7)")
+                .feed("q1;f55");
             List<String> got = everything(x, how);
-            for (int i = 0; i < Math.max(got.size(), wanted.size()); i++) due.holds("a faulty text, " + how + ": " + got.get(i), got.get(i).equals(wanted.get(i)));
+            for (int i = 0; i < Math.max(got.size(), wanted.size()); i++) due.holds("a faulty text, " + how + ": " + got.get(i), got.get(i)
+                .equals(wanted.get(i)));
         }
     }
 }

@@ -121,7 +121,8 @@ final class RowBoundsTest {
         x.is(BAD, "copy(-1, 0, 0, 0, 1)", "copy(8, 0, 0, 0, 1)", "copy(MIN, 0, 0, 0, 1)", "copy(MAX, 0, 0, 0, 1)");
         x.is(BAD, "copy(0, 0, -1, 0, 1)", "copy(0, 0, 8, 0, 1)", "copy(0, 0, MIN, 0, 1)", "copy(0, 0, MAX, 0, 1)");
         x.is(0, "status()").is(1, "copy(0, 0, 7, 0, 1)", "copy(7, 2, 0, 2, 1)");
-        town("4, NULL").run("row(0, 0, 3)").is(NULL, "copy(1, 0, 0, 0, 1)", "copy(0, 0, 1, 0, 1)", "copy(1, 0, 1, 0, 0)", "copy(2, 0, 1, 0, 1)").is(1, "status()");
+        town("4, NULL").run("row(0, 0, 3)").is(NULL, "copy(1, 0, 0, 0, 1)", "copy(0, 0, 1, 0, 1)", "copy(1, 0, 1, 0, 0)",
+            "copy(2, 0, 1, 0, 1)").is(1, "status()");
         x = town("4, STORE, even of none").run("row(0, 0, 3)", "row(1, 1, 3)", "row(2, 2, 3)", "row(3, 2, 0)");
         x.is(STORE, "copy(0, 0, 1, 0, 1)", "copy(1, 0, 0, 0, 0)", "copy(0, 0, 2, 0, 1)", "copy(2, 0, 0, 0, 1)", "copy(1, 0, 2, 0, 1)");
         x.is(STORE, "copy(2, 0, 1, 0, 3)", "copy(3, 0, 0, 0, 0)").is(5, "status()").is(0, "copy(3, 0, 2, 0, 0)", "status()");
@@ -137,8 +138,10 @@ final class RowBoundsTest {
     private static void promise4Ends() {
         Town x = town("4, PLACE (i, j, n below 0, or beyond an end)").run("row(0, 0, 4)", "row(1, 0, 3)", "row(2, 0, 0)");
         x.is(PLACE, "copy(0, -1, 1, 0, 1)", "copy(0, 0, 1, -1, 1)", "copy(0, 0, 1, 0, -1)", "copy(0, -1, 1, -1, 0)").is(2, "status()");
-        x.is(PLACE, "copy(0, 4, 1, 0, 1)", "copy(0, 2, 1, 0, 3)", "copy(0, 5, 1, 0, 0)").is(1, "copy(0, 3, 1, 0, 1)").is(3, "copy(0, 1, 1, 0, 3)");
-        x.is(PLACE, "copy(0, 0, 1, 3, 1)", "copy(0, 0, 1, 1, 3)", "copy(0, 0, 1, 4, 0)").is(1, "copy(0, 0, 1, 2, 1)").is(3, "copy(0, 0, 1, 0, 3)");
+        x.is(PLACE, "copy(0, 4, 1, 0, 1)", "copy(0, 2, 1, 0, 3)", "copy(0, 5, 1, 0, 0)").is(1, "copy(0, 3, 1, 0, 1)")
+            .is(3, "copy(0, 1, 1, 0, 3)");
+        x.is(PLACE, "copy(0, 0, 1, 3, 1)", "copy(0, 0, 1, 1, 3)", "copy(0, 0, 1, 4, 0)").is(1, "copy(0, 0, 1, 2, 1)")
+            .is(3, "copy(0, 0, 1, 0, 3)");
         x.is(PLACE, "copy(0, 0, 1, 0, 4)", "copy(1, 0, 0, 0, 4)").is(0, "copy(0, 4, 1, 3, 0)", "copy(0, 0, 1, 0, 0)");
         x.is(0, "copy(2, 0, 0, 4, 0)", "copy(0, 0, 2, 0, 0)", "copy(2, 0, 2, 0, 0)", "status()");
         x.is(PLACE, "copy(2, 0, 0, 0, 1)", "copy(0, 0, 2, 0, 1)", "copy(2, 1, 0, 0, 0)", "copy(0, 0, 2, 1, 0)", "copy(2, 0, 2, 0, -1)");
@@ -146,16 +149,20 @@ final class RowBoundsTest {
 
     private static void promise4WrapsAround() {
         Town x = town("4, a sum that wraps around is beyond an end").run("row(0, 0, 4)", "row(1, 0, 4)");
-        x.is(PLACE, "copy(0, MAX, 1, 0, 1)", "copy(0, MAX, 1, 0, 2)", "copy(0, MAX, 1, 0, MAX)", "copy(0, MIN, 1, 0, 1)", "copy(0, MIN, 1, 0, MIN)");
-        x.is(PLACE, "copy(0, 0, 1, MAX, 1)", "copy(0, 0, 1, MAX, 2)", "copy(0, 0, 1, MIN, 1)", "copy(0, 1, 1, 1, MAX)", "copy(0, 0, 1, 0, MAX)");
+        x.is(PLACE, "copy(0, MAX, 1, 0, 1)", "copy(0, MAX, 1, 0, 2)", "copy(0, MAX, 1, 0, MAX)", "copy(0, MIN, 1, 0, 1)",
+            "copy(0, MIN, 1, 0, MIN)");
+        x.is(PLACE, "copy(0, 0, 1, MAX, 1)", "copy(0, 0, 1, MAX, 2)", "copy(0, 0, 1, MIN, 1)", "copy(0, 1, 1, 1, MAX)",
+            "copy(0, 0, 1, 0, MAX)");
         x.is(PLACE, "copy(0, 0, 1, 0, MIN)", "copy(0, 1, 1, 0, MIN)", "copy(0, MAX, 1, MAX, 0)", "copy(0, MIN, 1, MIN, 0)");
     }
 
     private static void promise4AsTheyWereAhead() {
         Town x = town("4, onwards over itself, as they were ahead").reads(TELLER).run("row(0, 0, 5)", "set(0, 0, 1)", "set(0, 3, 1)");
-        x.is(4, "copy(0, 0, 0, 1, 4)").is(IS_1, "windy(0, 0, 1)", "windy(0, 1, 1)", "windy(0, 4, 1)").is(IS_0, "windy(0, 2, 1)", "windy(0, 3, 1)");
+        x.is(4, "copy(0, 0, 0, 1, 4)").is(IS_1, "windy(0, 0, 1)", "windy(0, 1, 1)", "windy(0, 4, 1)")
+            .is(IS_0, "windy(0, 2, 1)", "windy(0, 3, 1)");
         x = town("4, back over itself, as they were ahead").reads(TELLER).run("row(0, 0, 5)", "set(0, 1, 1)", "set(0, 4, 1)");
-        x.is(4, "copy(0, 1, 0, 0, 4)").is(IS_1, "windy(0, 0, 1)", "windy(0, 3, 1)", "windy(0, 4, 1)").is(IS_0, "windy(0, 1, 1)", "windy(0, 2, 1)");
+        x.is(4, "copy(0, 1, 0, 0, 4)").is(IS_1, "windy(0, 0, 1)", "windy(0, 3, 1)", "windy(0, 4, 1)")
+            .is(IS_0, "windy(0, 1, 1)", "windy(0, 2, 1)");
         x = town("4, where they are").reads(TELLER).run("row(0, 0, 2)", "set(0, 1, 1)");
         x.is(2, "copy(0, 0, 0, 0, 2)").is(IS_0, "windy(0, 0, 1)").is(IS_1, "windy(0, 1, 1)");
         x = town("4, none comes").reads(TELLER).run("row(0, 0, 2)", "row(1, 0, 2)", "set(0, 0, 1)");
@@ -175,24 +182,28 @@ final class RowBoundsTest {
         x = town("5, how many ITEMS it had").run("row(0, 0, 0)", "row(1, 1, 1)", "row(6, 2, 39)", "row(7, 2, 40)");
         x.is(0, "drop(0)").is(1, "drop(1)").is(39, "drop(6)").is(1, "count(0)").is(40, "drop(7)").is(0, "count(0)", "status()");
         x = town("5, missing from now on").reads(TELLER).run("row(0, 2, 2)", "row(1, 2, 2)", "set(0, 1, 1)", "drop(0)");
-        x.is(NULL, "drop(0)", "set(0, 0, 0)", "copy(0, 0, 1, 0, 1)", "copy(1, 0, 0, 0, 1)", "windy(0, 0, 1)", "missing(0, 0, 1)", "sorts(0, 0, 0, 1)");
+        x.is(NULL, "drop(0)", "set(0, 0, 0)", "copy(0, 0, 1, 0, 1)", "copy(1, 0, 0, 0, 1)", "windy(0, 0, 1)", "missing(0, 0, 1)",
+            "sorts(0, 0, 0, 1)");
         x.is(2, "row(0, 2, 2)").is(IS_0, "windy(0, 1, 1)");
     }
 
     private static void promise35Numbers() {
         Town x = town("35, the number of its FINDING").reads("q0;f1,0;f1,0;p1,0;").run("row(0, 0, 2)", "row(1, 1, 2)").is(0, "status()");
-        x.is(NULL, "drop(2)").is(1, "status()", "status()").is(PLACE, "set(0, 2, 0)").is(2, "status()").is(KIND, "as(0, 4)").is(3, "status()");
+        x.is(NULL, "drop(2)").is(1, "status()", "status()").is(PLACE, "set(0, 2, 0)").is(2, "status()").is(KIND, "as(0, 4)")
+            .is(3, "status()");
         x.is(SIZE, "row(0, 0, -1)").is(4, "status()").is(STORE, "copy(0, 0, 1, 0, 1)").is(5, "status()");
     }
 
     /** Each call with a ROW, and as(), takes a FINDING back that the one before it had. */
     private static void promise35Calls() {
-        String[] calls = {"row(1, 0, 2)", "set(0, 0, 1)", "copy(0, 0, 0, 1, 1)", "missing(0, 0, 1)", "windy(0, 0, 1)", "sorts(0, 0, 0, 1)", "as(0, 0)", "drop(0)"};
+        String[] calls = {"row(1, 0, 2)", "set(0, 0, 1)", "copy(0, 0, 0, 1, 1)", "missing(0, 0, 1)", "windy(0, 0, 1)",
+            "sorts(0, 0, 0, 1)", "as(0, 0)", "drop(0)"};
         for (String one : calls) {
             Town x = town("35, 0: " + one + " had none").reads("q0;f1,0;f1,0;p1,0;").run("row(0, 0, 2)", "set(0, 2, 0)");
             x.is(2, "status()").run(one).is(0, "status()");
         }
-        String[] found = {"set(7, 0, 0)", "copy(7, 0, 0, 0, 1)", "copy(0, 0, 7, 0, 1)", "missing(7, 0, 1)", "windy(7, 0, 1)", "sorts(0, 7, 0, 1)", "drop(7)"};
+        String[] found = {"set(7, 0, 0)", "copy(7, 0, 0, 0, 1)", "copy(0, 0, 7, 0, 1)", "missing(7, 0, 1)", "windy(7, 0, 1)",
+            "sorts(0, 7, 0, 1)", "drop(7)"};
         for (String one : found) {
             Town x = town("35, NULL of " + one).reads("q0;f1,0;f1,0;p1,0;").run("row(0, 0, 2)");
             x.is(0, "status()").is(NULL, one).is(1, "status()");
@@ -207,12 +218,16 @@ final class RowBoundsTest {
     private static void promise35Others() {
         Town x = town("35, a call that is BAD leaves it").reads("q0;f1,0;f1,0;p1,0;").run("row(0, 0, 2)", "row(0, 0, -1)");
         x.is(BAD, "row(8, 0, 0)", "row(0, 3, 0)", "row(0, 0, 41)", "set(8, 0, 0)", "copy(8, 0, 0, 0, 0)", "copy(0, 0, 8, 0, 0)", "drop(8)");
-        x.is(BAD, "missing(8, 0, 1)", "missing(0, 0, 0)", "windy(8, 0, 1)", "windy(0, 0, 17)", "sorts(1, 0, 0, 1)", "sorts(0, 8, 0, 1)", "as(1, 0)", "as(0, 6)");
+        x.is(BAD, "missing(8, 0, 1)", "missing(0, 0, 0)", "windy(8, 0, 1)", "windy(0, 0, 17)", "sorts(1, 0, 0, 1)", "sorts(0, 8, 0, 1)",
+            "as(1, 0)", "as(0, 6)");
         x.is(4, "status()");
-        x = town("35, a call that is STATE leaves it").run("row(0, 0, -1)").is(STATE, "missing(0, 0, 1)", "windy(0, 0, 1)").is(4, "status()");
+        x = town("35, a call that is STATE leaves it").run("row(0, 0, -1)").is(STATE, "missing(0, 0, 1)", "windy(0, 0, 1)")
+            .is(4, "status()");
         x = town("35, calls without a ROW leave it").run("row(0, 0, -1)").reads("q0;f1,0;f1,0;p1,0;");
-        x.run("steps(3)", "change(0)", "wind(3)", "cough(0)", "undo()", "sleeper(0, 0)", "sheep(0, 0)", "off(0)", "counted(0, 9)", "when(0)", "all(1)");
-        x.run("never()", "quiet(1)", "order(1, 0)", "fewest(1, 9, 0)", "stay(0, 9, 5, 0)", "image(0)", "restore(0)", "kind(0)", "ask(0, 1)", "trace(0)");
+        x.run("steps(3)", "change(0)", "wind(3)", "cough(0)", "undo()", "sleeper(0, 0)", "sheep(0, 0)", "off(0)", "counted(0, 9)",
+            "when(0)", "all(1)");
+        x.run("never()", "quiet(1)", "order(1, 0)", "fewest(1, 9, 0)", "stay(0, 9, 5, 0)", "image(0)", "restore(0)", "kind(0)",
+            "ask(0, 1)", "trace(0)");
         x.run("count(0)", "fault()", "feed(300)", "feed(120)", "square()", "undo()", "restore(1)", "steps(0)").is(4, "status()");
     }
 }

@@ -42,7 +42,8 @@ final class TextBoundsTest {
 
     private static void promise6Letters() {
         Town x = town("6, a byte (0 to 255)").is(BAD, "feed(MIN)", "feed(-1)", "feed(256)", "feed(257)", "feed(MAX)").is(0, "count(7)");
-        x.is(1, "feed(0)").is(2, "feed(1)").is(3, "feed(254)").is(4, "feed(255)", "count(7)").is(BAD, "feed(-1)", "feed(256)").is(4, "count(7)");
+        x.is(1, "feed(0)").is(2, "feed(1)").is(3, "feed(254)").is(4, "feed(255)", "count(7)").is(BAD, "feed(-1)", "feed(256)")
+            .is(4, "count(7)");
         x = town("6, what is BAD does not come behind").feed("q1;f").run("feed(-1)", "feed(256)").feed("5,0;");
         x.is(8, "count(7)").is(0, "square()").is(5, "sheep(0, 0)");
     }
@@ -57,7 +58,8 @@ final class TextBoundsTest {
 
     private static void promise7Empty() {
         fault("", 1, 0);
-        town("7, an empty tape leaves the SQUARE").reads("q3;f1,0;p1,0;").run("steps(1)").is(-1000100, "square()").is(1, "count(3)", "count(6)", "off(0)");
+        town("7, an empty tape leaves the SQUARE").reads("q3;f1,0;p1,0;").run("steps(1)").is(-1000100, "square()")
+            .is(1, "count(3)", "count(6)", "off(0)");
     }
 
     private static void promise7Longest() {
@@ -105,8 +107,10 @@ final class TextBoundsTest {
         number("q0;f0,0;p", ",0;", 1, 60, 1);
         number("q0;f0,0;p1,", ";", 0, 1, 1);
         number("q0;f0,0;p1,0;l", ",1;", 1, 60, 2);
-        Town x = town("WIND 0 to 9").reads("q0;f0,0;").is(0, "count(4)").reads("q9;f0,0;").is(9, "count(4)").reads("q09;f0,0;").is(9, "count(4)");
-        x = town("LOUD 0 to 9, COAT 0 to 3").reads("q0;f0,0;f9,3;f08,02;").are("sheep(0, ", 0, 0, 0).are("sheep(1, ", 9, 3, 1).are("sheep(2, ", 8, 2, 2);
+        Town x = town("WIND 0 to 9").reads("q0;f0,0;").is(0, "count(4)").reads("q9;f0,0;").is(9, "count(4)").reads("q09;f0,0;")
+            .is(9, "count(4)");
+        x = town("LOUD 0 to 9, COAT 0 to 3").reads("q0;f0,0;f9,3;f08,02;").are("sheep(0, ", 0, 0, 0).are("sheep(1, ", 9, 3, 1)
+            .are("sheep(2, ", 8, 2, 2);
         x = town("NEEDS 1 to 60, SIDE 0, 1").reads("q0;f0,0;p1,0;p60,1;p09,00;p59,01;");
         x.are("sleeper(0, ", 1, 0).are("sleeper(1, ", 60, 1).are("sleeper(2, ", 9, 0).are("sleeper(3, ", 59, 1);
     }
@@ -234,7 +238,8 @@ final class TextBoundsTest {
     private static void promise7InPlaceOfTheOneBefore() {
         Town x = town("7, in place of the one before: STEP 0, nobody COUNTED, nobody OFF, no ACT can be undone");
         x.reads("q3;f1,0;f9,2;f4,1;p1,0;n3,1;l1,0;").run("steps(4)", "change(0)", "wind(2)").is(5, "off(0)");
-        x.reads("q3;f1,0;f9,2;f4,1;p1,0;n3,1;l1,0;").is(0, "count(3)", "count(5)", "count(6)", "off(0)").is(3, "count(4)").is(STATE, "undo()");
+        x.reads("q3;f1,0;f9,2;f4,1;p1,0;n3,1;l1,0;").is(0, "count(3)", "count(5)", "count(6)", "off(0)").is(3, "count(4)")
+            .is(STATE, "undo()");
         for (int s = 0; s < 3; s++) x.is(0, "sleeper(" + s + ", 2)", "sleeper(" + s + ", 3)").is(s, "sheep(" + s + ", 2)");
         x.is(5, "steps(1)").is(0, "undo()").is(0, "off(0)");
         x.reads("q0;f0,0;").is(0, "count(2)", "never()").is(1, "count(1)").is(BAD, "kind(0)", "sheep(1, 0)");
@@ -243,7 +248,8 @@ final class TextBoundsTest {
     private static void promise8() {
         Town x = town("8, 0 before one").is(0, "fault()").reads("q0;f0,0;").is(0, "fault()");
         x = town("8, the latest FAULT").run("square()").is(1, "fault()").feed("q10;").is(-1000101, "square()").is(2, "fault()");
-        x.feed("q0;" + SIX_SHEEP + "f").is(-1000133, "square()").is(3, "fault()").reads("q0;f0,0;").is(3, "fault()").run("square()").is(1, "fault()");
+        x.feed("q0;" + SIX_SHEEP + "f").is(-1000133, "square()").is(3, "fault()").reads("q0;f0,0;").is(3, "fault()").run("square()")
+            .is(1, "fault()");
         town("8, what is on the tape has none yet").feed("xyz").is(0, "fault()");
     }
 }
