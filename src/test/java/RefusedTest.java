@@ -13,7 +13,7 @@ final class RefusedTest {
     private static final int ANY = 0, SAME_STATUS = -1;
     private static final Due due = new Due("RefusedTest");
 
-    private enum Start { EMPTY, BUSY, FULL_TAPE, NO_ACTS, LAST_STEP }
+    private enum Start { EMPTY, BUSY, FULL_TAPE, FULL_TAPE_AND_BUSY, NO_ACTS, FIRST_IMAGE, SECOND_IMAGE, LAST_STEP }
 
     public static void main(String[] args) {
         refusedWithoutASquare();
@@ -27,6 +27,7 @@ final class RefusedTest {
         toldOnly();
         foretoldOnly();
         faultyText();
+        byHand();
         due.end();
     }
 
@@ -43,14 +44,17 @@ final class RefusedTest {
             "set(2, 2, 5)", "row(3, 2, 0)");
         if (how == Start.FULL_TAPE) return x.feed("q1;f5,0;p1,0;" + "p".repeat(87)).run("set(0, 3, 0)");
         x.feed("q10;").run("square()");
-        if (how != Start.EMPTY) busy(x);
+        if (how != Start.EMPTY) busy(x, how);
         if (how == Start.NO_ACTS) x.run("restore(1)");
-        return x.feed("q1;f55").run("set(0, 3, 0)");
+        return x.feed("q1;f55").feed(how == Start.FULL_TAPE_AND_BUSY ? "p".repeat(94) : "").run("set(0, 3, 0)");
     }
 
-    private static void busy(Town x) {
-        x.reads("q4;f5,0;f2,1;f9,2;f4,3;f7,1;f6,0;p4,0;d9,1;t6,0;n2,1;l2,0;");
-        x.run("steps(5)", "image(0)", "change(1)", "wind(7)", "cough(0)", "steps(3)", "image(1)", "wind(2)", "steps(2)", "ask(1, 0)");
+    private static void busy(Town x, Start how) {
+        x.reads("q4;f5,0;f2,1;f9,2;f4,3;f7,1;f6,0;p4,0;d9,1;t6,0;n2,1;l2,0;").run("steps(5)");
+        if (how != Start.SECOND_IMAGE) x.run("image(0)");
+        x.run("change(1)", "wind(7)", "cough(0)", "steps(3)");
+        if (how != Start.FIRST_IMAGE) x.run("image(1)");
+        x.run("wind(2)", "steps(2)", "ask(1, 0)");
     }
 
     private static int ask(Town x, List<String> asked, String call) {
@@ -190,6 +194,8 @@ final class RefusedTest {
         refused(Start.BUSY, BAD, "image(-1)", "image(2)", "image(MAX)", "restore(-1)", "restore(2)", "restore(MIN)");
         refused(Start.BUSY, STATE, "change(5)");
         refused(Start.NO_ACTS, STATE, "undo()", "change(5)");
+        refused(Start.FIRST_IMAGE, STATE, "restore(1)");
+        refused(Start.SECOND_IMAGE, STATE, "restore(0)");
         refused(Start.NO_ACTS, BAD, "change(6)", "wind(10)", "cough(5)", "steps(25)");
     }
 
@@ -223,6 +229,8 @@ final class RefusedTest {
     private static void full() {
         refused(Start.FULL_TAPE, FULL, "feed(0)", "feed(112)", "feed(255)");
         refused(Start.FULL_TAPE, BAD, "feed(-1)", "feed(256)");
+        refused(Start.FULL_TAPE_AND_BUSY, FULL, "feed(0)", "feed(112)");
+        refused(Start.FULL_TAPE_AND_BUSY, BAD, "feed(256)");
         refused(Start.LAST_STEP, FULL, "steps(7)", "steps(24)");
         refused(Start.LAST_STEP, BAD, "steps(0)", "steps(25)");
     }
@@ -252,5 +260,50 @@ final class RefusedTest {
             for (int i = 0; i < Math.max(got.size(), wanted.size()); i++) due.holds("a faulty text, " + how + ": " + got.get(i), got.get(i)
                 .equals(wanted.get(i)));
         }
+    }
+
+    /** Calls by which the twins themselves are looked at would spoil both alike: so all is told by hand here. */
+    private static void byHand() {
+        String[] calls = {"fault()", "status()", "trace(0)", "trace(9)", "kind(0)", "kind(2)", "off(0)", "off(100)", "windy(0, 0, 1)",
+            "windy(8, 0, 1)",
+            "ask(1, 1)", "ask(2, 0)", "count(6)", "count(8)", "sleeper(0, 2)", "sleeper(2, 0)", "sheep(0, 2)", "sheep(3, 0)",
+                "set(0, 0, 1)", "set(8, 0, 0)",
+            "drop(7)", "drop(8)", "restore(2)", "feed(256)"};
+        for (String call : calls) {
+            allIsAsTold(told(call + ", by hand").run(call), 2);
+            imagesAreAsTold(told(call + ", by hand").run(call));
+            rowsAreAsTold(told(call + ", by hand").run(call));
+        }
+        allIsAsTold(told("a byte that is fed, by hand").run("feed(59)"), 3);
+        rowsAreAsTold(told("a byte that is fed, by hand").run("feed(59)"));
+        Town x = told("undo() where no ACT can be undone, by hand").run("restore(1)").is(STATE, "undo()").is(0, "count(6)");
+        x.is(3, "count(3)").is(2, "count(4)").is(1, "off(0)", "count(5)").are("trace(", 23, 20, 13, 10, NONE);
+        rowsAreAsTold(x);
+    }
+
+    private static Town told(String sentence) {
+        Town x = new Town(due, sentence).feed("q10;").run("square()").reads("q3;f1,0;f9,2;f4,1;p2,0;n3,1;")
+            .run("steps(3)", "change(0)", "image(0)");
+        x.run("wind(2)", "image(1)", "cough(1)", "ask(1, 1)", "row(0, 0, 1)", "set(0, 0, 1)", "row(1, 1, 1)", "row(3, 2, 0)");
+        return x.feed("q1");
+    }
+
+    private static void allIsAsTold(Town x, int bytes) {
+        x.are("trace(", 23, 20, 13, 10, NONE).are("count(", 3, 3, 2, 3, 2, 1, 6, bytes).is(2, "fault()").is(1, "off(0)");
+        x.are("sleeper(0, ", 2, 0, 3, 1, 7).are("sleeper(1, ", 3, 1, 0, 0, 6).are("kind(", 1, 4, BAD);
+        x.are("sheep(0, ", 1, 0, 1).are("sheep(1, ", 9, 2, 0).are("sheep(2, ", 4, 1, 2).is(-1000100 - bytes, "square()");
+        x.is(5, "undo()").is(1, "sleeper(1, 2)").is(4, "undo()").is(3, "count(4)").is(3, "undo()").is(0, "sheep(0, 2)")
+            .is(2, "undo()", "count(3)");
+    }
+
+    private static void imagesAreAsTold(Town x) {
+        x.is(1, "restore(0)").are("count(", 3, 3, 2, 3, 3, 1, 0).is(1, "sleeper(1, 2)").is(1, "sheep(0, 2)");
+        x.is(1, "restore(1)").are("count(", 3, 3, 2, 3, 2, 1, 0).is(1, "sleeper(1, 2)").is(1, "sheep(0, 2)");
+    }
+
+    private static void rowsAreAsTold(Town x) {
+        x.is(1023, "windy(0, 0, 1)").is(0, "windy(1, 0, 1)").is(PLACE, "set(3, 0, 0)").is(112, "set(0, 0, 70000)")
+            .is(4464, "set(1, 0, 70000)");
+        x.is(1, "drop(0)", "drop(1)").is(NULL, "drop(2)").is(0, "drop(3)").is(NULL, "drop(4)", "drop(7)");
     }
 }
