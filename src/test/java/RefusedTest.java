@@ -279,6 +279,10 @@ final class RefusedTest {
         Town x = told("undo() where no ACT can be undone, by hand").run("restore(1)").is(STATE, "undo()").is(0, "count(6)");
         x.is(3, "count(3)").is(2, "count(4)").is(1, "off(0)", "count(5)").are("trace(", 23, 20, 13, 10, NONE);
         rowsAreAsTold(x);
+        x = new Town(due, "STATE of calls by which the twins are looked at, by hand").run("row(1, 1, 1)");
+        x.is(STATE, "off(0)", "undo()", "restore(0)", "restore(1)").is(4464, "set(1, 0, 70000)").is(1, "count(0)");
+        x.reads("q0;f1,0;p1,0;d1,0;t1,0;n1,0;l1,0;").is(0, "fault()").are("kind(", 1, 2, 3, 4, 5).is(STATE, "restore(0)")
+            .are("kind(", 1, 2, 3, 4, 5);
     }
 
     private static Town told(String sentence) {
